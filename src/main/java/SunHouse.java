@@ -1247,7 +1247,6 @@ public final class SunHouse {
             }
             lay(start, statements, place);
             lay(sign, statements, next);
-            lay(firstNumber, statements, numbers);
             kind = next;
             behindPush = false;
             underDiode = 0;
@@ -1399,23 +1398,18 @@ public final class SunHouse {
             }
         }
 
-        /** CELLS that are told one by one, as if in one line without DIODES. */
+        /** CELLS that are told one by one, for a PARTING: they stand in no line yet. */
         void spreadTold(Shelf told) {
             clear();
             for (int i = 0; i < told.size; i++) {
                 addCell(at(told.elements, i), i);
             }
-            groups = cells;
-            lines = 1;
-            lay(firstOfLine, 1, cells);
         }
 
         private void clear() {
             cells = 0;
             groups = 0;
             lines = 0;
-            sideBySide = false;
-            lay(firstOfLine, 0, 0);
             Arrays.fill(diode, 0);
         }
 
@@ -1731,7 +1725,7 @@ public final class SunHouse {
     /** BEST WASHING, planned from the last DAY to the first. */
     private static final class Washing {
         private int days = 0;
-        /** By a DAY that begins clean: the most from it on, the fewest washings for that, the next one. */
+        /** By a DAY that begins clean: the most from it on, the washings for that, the DAY of the next one. */
         final int[] most = new int[MOST_WASH_DAYS + 1];
         private final int[] washings = new int[MOST_WASH_DAYS + 1];
         private final int[] next = new int[MOST_WASH_DAYS + 1];

@@ -147,6 +147,8 @@ public final class PromiseTests {
         fault("r[0 [1]];", -1004);
         fault("r0];", -1002);
         fault("r[0]1;", -1004);
+        fault("r[1]2;", -1004);
+        fault("r[1 2]3;", -1006);
         fault("r[0] ;", -1005);
         fault("r0[1];", -1002);
         fault("r0/1;", -1002);
@@ -194,7 +196,11 @@ public final class PromiseTests {
         fault("f0 99;", -2000);
         fault("r2;c0/1 1/0;", -2000);
         fault("c0/1 1/0;c0/0 1/0;r7;", -2009);
+        fault("c0/1 1/0;r[0 1] 9;", -2009);
         due("all were free still", tell("r0;f2 1;b3;"), 3);
+        due("about(2, 1)", x.about(2, 1), 1);
+        due("about(2, 2)", x.about(2, 2), 0);
+        due("about(3, 1)", x.about(3, 1), 2);
         fault("b2;", -2000);
         fault("r0;", -2000);
     }
@@ -256,12 +262,17 @@ public final class PromiseTests {
         x.dead(0, true);
         due("a DEAD one", x.point(0, 0, 1), 0);
         due("its PUSH", x.point(0, 2, 0), 21);
+        due("SHARE 40 of 99", tell("c0/99 1/0;"), 1);
+        x.set(6, 0, 90);
+        x.set(6, 1, 50);
+        x.set(6, 2, 10);
+        due("99 by 40", x.point(6, 0, 1), 39);
         due("no such POINT", x.point(0, 3, 0), -1);
         due("point(1, 2, 0)", x.point(1, 2, 0), -1);
         due("point(0, -1, 0)", x.point(0, -1, 0), -1);
         due("point(0, 0, 2)", x.point(0, 0, 2), -1);
         due("point(0, 0, -1)", x.point(0, 0, -1), -1);
-        due("point(6, 0, 0)", x.point(6, 0, 0), -1);
+        due("point(7, 0, 0)", x.point(7, 0, 0), -1);
         due("point(2, 0, 0)", x.point(2, 0, 0), -3);
         due("point(2, 0, 2)", x.point(2, 0, 2), -1);
         due("point(5, 0, 0)", x.point(5, 0, 0), -3);
@@ -322,6 +333,7 @@ public final class PromiseTests {
         // at 19 the ROW gives 8 and the CELL 0
         due("push(4, 8)", push(4, 8), 19);
         due("push(4, 0)", push(4, 0), 999);
+        due("push(4, 12) at 0 alone", push(4, 12), 0);
         due("push(4, 13)", push(4, 13), -1);
         due("push(4, 999)", push(4, 999), -1);
         due("a BOX", push(5, 8), 19);
@@ -454,6 +466,9 @@ public final class PromiseTests {
         // at 4 the DIODE of 0 sees 0, at 5 it sees -2
         due("held(2, 4, 1)", x.held(2, 4, 1), 0);
         due("held(2, 5, 1)", x.held(2, 5, 1), 1);
+        x.set(1, 0, 10);
+        due("the second is dimmer", x.held(2, 2, 0), 1);
+        x.set(1, 0, 100);
         due("a BOX is no ROW", x.held(3, 5, 1), -3);
         // together -1 does not let pass: at 5, 0 gives -2 and 2 gives 1
         due("a text", tell("c0/4 10/0;c0/5 10/5 11/0;c0/9 1/5 2/0;r[4 6];"), 4);
@@ -533,6 +548,7 @@ public final class PromiseTests {
         x.box(1, 1, 40);
         due("its own STEP", x.led(1, 60, 0), 0);
         due("led(1, 61, 0)", x.led(1, 61, 0), -4);
+        due("led(1, 500, 0)", x.led(1, 500, 0), -4);
         due("led(1, 501, 0)", x.led(1, 501, 0), -1);
         due("led(1, -1, 0)", x.led(1, -1, 0), -1);
         due("led(1, 0, 201)", x.led(1, 0, 201), -1);
@@ -545,6 +561,8 @@ public final class PromiseTests {
         begin("15", HOUSE);
         due("lies(0, 0, 0)", x.lies(0, 0, 0), 1);
         due("lies(0, 0, 1911)", x.lies(0, 0, 1911), 240);
+        due("lies(0, 1900, 1900)", x.lies(0, 1900, 1900), 1);
+        due("lies(0, 11, 111)", x.lies(0, 11, 111), 2);
         due("lies(0, 203, 405)", x.lies(0, 203, 405), 9);
         due("x upside down", x.lies(0, 403, 305), -1);
         due("y upside down", x.lies(0, 305, 404), -1);
@@ -624,6 +642,16 @@ public final class PromiseTests {
         x.wall(1, 4, 0, 1);
         due("no PLACE is shaded twice", x.lit(0, 0), 82);
         due("one that lies nowhere", x.lit(1, 0), 100);
+        x.wall(2, 0, 0, 1);
+        due("nor by a WALL anywhere", x.lit(1, 0), 100);
+        x.wall(3, 19, 2, 30);
+        x.wall(4, 0, 9, 30);
+        x.sun(5, 0, 30);
+        x.lies(0, 3, 3);
+        due("no shade comes round to the west", x.lit(0, 5), 100);
+        x.sun(5, 4, 30);
+        x.lies(0, 1908, 1908);
+        due("nor to the east", x.lit(0, 5), 100);
         due("lit(2, 0)", x.lit(2, 0), -3);
         due("lit(3, 0)", x.lit(3, 0), -3);
         due("lit(0, 12)", x.lit(0, 12), -1);
@@ -764,6 +792,9 @@ public final class PromiseTests {
         due("31", x.wash(5, 0), -13);
         x.row(5, 1, 30);
         due("30", x.wash(5, 0), 0);
+        x.put(5, 0, -1);
+        due("the first", x.wash(5, 0), -13);
+        x.put(5, 0, 0);
         x.put(5, 29, 1000);
         due("1000", x.wash(5, 0), -13);
         x.put(5, 29, -1);
@@ -779,6 +810,7 @@ public final class PromiseTests {
         due("free", x.washed(0, 100000, -1), 4);
         due("free, on DAY 1 first", x.washed(0, 100000, 0), 1);
         due("free, on DAY 4 last", x.washed(0, 100000, 3), 4);
+        due("RATE 1", x.washed(0, 10000, -1), 4);
         due("never on a clean DAY", x.washed(0, 0, -1), 0);
         due("none there", x.washed(0, 0, 0), -4);
         // each wash gives just what it costs: the fewest
@@ -835,6 +867,8 @@ public final class PromiseTests {
         due("told twice", x.parting(5, 0), -13);
         lay(5, 0, 0, 3);
         due("no CELL", x.parting(5, 0), -13);
+        lay(5, 0, 3, 0);
+        due("no CELL first", x.parting(5, 0), -13);
         lay(5, 0, 0, 4);
         due("no PART", x.parting(5, 0), -13);
         lay(5, 0, 0, -1);
@@ -970,7 +1004,10 @@ public final class PromiseTests {
         for (int part = 0; part < 6; part++) {
             due("faults(" + part + ")", x.faults(part), want[part]);
         }
-        due("faults(6)", x.faults(6), -1);
+        due("a DIODE ahead of all", tell("c0/1 1/0;r[6];c0/1 1/0;"), 3);
+        due("faults(7)", x.faults(7), 3);
+        due("faults(8)", x.faults(8), 2);
+        due("faults(9)", x.faults(9), -1);
         due("faults(-1)", x.faults(-1), -1);
     }
 
@@ -1089,28 +1126,34 @@ public final class PromiseTests {
         due("none", x.restore(), -3);
         x.set(1, 1, 5);
         x.dead(1, true);
-        x.lies(1, 0, 100);
+        x.lies(1, 600, 700);
         x.box(2, 1, 3);
-        x.seek(2, 7);
-        x.wall(4, 0, 0, 9);
+        // 3, 6, 9, 12, 15: there POWER is less than at 12
+        x.seek(2, 5);
+        x.wall(4, 6, 0, 9);
         x.sun(5, 2, 3);
         x.trade(6, 123);
         x.room(8);
-        lay(0, 0, 70, 80);
+        lay(0, 0, 70, -128, 80);
         x.sky(0);
         due("image()", x.image(), 3);
         x.set(1, 1, 6);
         x.dead(1, false);
-        x.lies(1, 0, 0);
+        x.lies(1, 0, 1911);
         x.box(2, 1, 4);
         x.box(2, 0, 40);
-        x.wall(4, 0, 0, 0);
+        x.wall(4, 9, 9, 1);
         x.sun(5, 0, 0);
         x.trade(6, 0);
         x.room(0);
         x.row(0, 1, 1);
         x.sky(0);
         due("more", tell("c0/1 1/0;r1;"), 2);
+        x.set(3, 0, 1);
+        x.set(3, 1, 2);
+        x.set(3, 3, 4);
+        x.dead(3, true);
+        x.lies(3, 0, 0);
         due("restore()", x.restore(), 3);
         due("PARTS", x.count(0), 3);
         due("about(1, 4)", x.about(1, 4), -4);
@@ -1120,18 +1163,25 @@ public final class PromiseTests {
         due("SUN", x.sun(5, 2, 3), 203);
         due("TRADE", x.trade(6, 0), 123);
         due("ROOM", x.room(0), 8);
-        due("SKY", x.strength(0, 1), 80);
-        due("count(7)", x.count(7), 2);
+        due("SKY and its GAP", x.strength(0, 1), 75);
+        due("count(7)", x.count(7), 3);
         due("SHELVES stay", element(0, 0), 0);
         due("count(6)", x.count(6), 1);
-        // 3, 6, 9, 12, 15, there it turned around: 12, 9
-        due("where the BOX goes on, down", x.seek(2, 1), 6);
-        due("its STEP", x.box(2, 1, 5), 3);
+        due("what the BOX measured", x.seek(2, 1), 12);
+        x.image();
+        x.box(2, 1, 5);
+        due("restore()", x.restore(), 3);
+        due("its way and its STEP", x.seek(2, 1), 9);
         due("THE IMAGE stays", x.restore(), 3);
-        due("and is as it was", x.set(1, 1, 0), 5);
+        due("and is as it was", x.seek(2, 1), 9);
         due("new PARTS are new", tell("c0/1 1/0;b1;"), 2);
         due("STEP of a new BOX", x.box(4, 1, 5), 5);
         due("LIGHT of a new CELL", x.set(3, 0, 1), 100);
+        due("DIRT of a new CELL", x.set(3, 1, 1), 0);
+        due("WARM of a new CELL", x.set(3, 3, 1), 0);
+        due("it is not DEAD", x.dead(3, false), 0);
+        x.wall(0, 0, 0, 1);
+        due("it lies nowhere", x.lit(3, 0), 100);
     }
 
     private static void promise36() {
@@ -1165,6 +1215,9 @@ public final class PromiseTests {
         due("refused, it holds what it held", x.weight(0), 20);
         due("nothing, k is no matter", x.keep(0, 0, 99), 0);
         due("weight(0)", x.weight(0), -11);
+        x.row(2, 0, 1);
+        x.keep(2, 0, 0);
+        due("nothing in place of a ROW", x.put(2, 0, 0), -11);
         x.row(1, 0, 1);
         due("in place of a ROW", x.keep(1, 1, 0), 0);
         due("element(1, 0)", element(1, 0), ILLEGAL_STATE);
@@ -1258,6 +1311,7 @@ public final class PromiseTests {
         due("copy(5, .., -1, ..)", x.copy(5, 0, -1, 0, 1), -1);
         due("the first holds nothing", x.copy(5, 0, 1, 0, 1), -11);
         due("the other holds nothing", x.copy(1, 0, 5, 0, 1), -11);
+        x.row(4, 1, 3);
         x.keep(4, 1, 0);
         due("a PART and nothing", x.copy(4, 0, 5, 0, 1), -11);
         due("from a PART", x.copy(4, 0, 1, 0, 1), -12);
