@@ -216,6 +216,8 @@ public final class PromiseTests {
             due("10 more", tell("c0/1 1/0;c0/1 1/0;c0/1 1/0;c0/1 1/0;c0/1 1/0;c0/1 1/0;c0/1 1/0;c0/1 1/0;c0/1 1/0;c0/1 1/0;"), 10);
         }
         due("f of 6", tell("f11 12 13 14 15 10;"), 1);
+        due("all 6 give", x.current(31, 0), 6);
+        due("all their CELLS", x.about(31, 1), 13);
         due("7 more", tell("c0/1 1/0;c0/1 1/0;c0/1 1/0;c0/1 1/0;c0/1 1/0;c0/1 1/0;c0/1 1/0;"), 7);
         due("count(0)", x.count(0), 39);
         fault("c0/1 1/0;c0/1 1/0;", -2009);
@@ -690,6 +692,13 @@ public final class PromiseTests {
         lay(1, 1, -128, -32768, 50, -32768);
         x.sky(1);
         due("-128 is no GAP of shorts", x.strength(0, 0), 0);
+        lay(5, 0, 99, 100, 101, 1, 0);
+        x.sky(5);
+        int[] edges = {99, 100, 100, 1, 0};
+        for (int h = 0; h < 5; h++) {
+            due("strength(0, " + h + ")", x.strength(0, h), edges[h]);
+        }
+        x.sky(1);
         // (-128 + 50) / 2 = -39
         due("the mean of what stands there", x.strength(0, 1), 0);
         due("one alone", x.strength(0, 3), 50);
@@ -828,6 +837,12 @@ public final class PromiseTests {
         due("washed(1, 200090, 2)", x.washed(1, 200090, 2), -4);
         due("for 100 each one of them will do", x.washed(1, 200100, -1), 1);
         due("the one", x.washed(1, 200100, 0), 3);
+        // 160 is made by DAYS 1 3, 2 3, 2 4 and by three or four washings that begin on DAY 2, too
+        lay(1, 1, 0, 50, 50, 50, 50);
+        due("wash(1, 200010)", x.wash(1, 200010), 160);
+        due("fewest ahead of latest", x.washed(1, 200010, -1), 2);
+        due("the latest first", x.washed(1, 200010, 0), 2);
+        due("then the latest next", x.washed(1, 200010, 1), 4);
         due("-2 ahead of all", x.washed(5, -1, -2), -1);
         due("washed(5, 0, -2)", x.washed(5, 0, -2), -1);
         due("washed(5, 0, -1)", x.washed(5, 0, -1), -11);
@@ -1167,6 +1182,7 @@ public final class PromiseTests {
         due("count(7)", x.count(7), 3);
         due("SHELVES stay", element(0, 0), 0);
         due("count(6)", x.count(6), 1);
+        due("HEIGHT of the WALL", x.wall(4, 6, 0, 9), 9);
         due("what the BOX measured", x.seek(2, 1), 12);
         x.image();
         x.box(2, 1, 5);
