@@ -50,6 +50,10 @@ public final class SunHouse {
     private static final int BYTES = 0;
     private static final int SHORTS = 1;
     private static final int INTS = 2;
+    private static final int LEAST_BYTE = -128;
+    private static final int GREATEST_BYTE = 127;
+    private static final int LEAST_SHORT = -32768;
+    private static final int LEAST_INT = -2147483648;
 
     private static final int MOST_WASH_DAYS = 30;
     private static final int MOST_DIRT = 50;
@@ -888,8 +892,7 @@ public final class SunHouse {
                 return false;
             }
             for (int i = first + 1; i <= last; i++) {
-                // a flat piece of CURRENT is no fault: that the first is above 0 is asked on its own
-                if (at(push, i) <= at(push, i - 1) || at(current, i) > at(current, i - 1)) {
+                if (at(push, i) <= at(push, i - 1) || at(current, i) >= at(current, i - 1)) {
                     return false;
                 }
             }
@@ -1151,7 +1154,7 @@ public final class SunHouse {
         }
 
         int leastOfSort() {
-            return sort == BYTES ? Byte.MIN_VALUE : sort == SHORTS ? Short.MIN_VALUE : Integer.MIN_VALUE;
+            return sort == BYTES ? LEAST_BYTE : sort == SHORTS ? LEAST_SHORT : LEAST_INT;
         }
 
         /** n may be as great as an int can be, so that i and n together are only added in long. */
@@ -1789,7 +1792,7 @@ public final class SunHouse {
             for (int f = 0; f < all; f++) {
                 int g = bench.groupOfDiode(f - bench.cells - 1);
                 bench.suffer(f);
-                bench.sumCurrents(Byte.MIN_VALUE, Byte.MAX_VALUE);
+                bench.sumCurrents(LEAST_BYTE, GREATEST_BYTE);
                 if (agrees(bench, measured)) {
                     note(bench, f);
                 }

@@ -34,9 +34,7 @@ public final class LanguageRules {
 
     private static final Set<String> LIBRARY = Set.of(
         "java.lang.Math.max", "java.lang.Math.min", "java.lang.Math.abs", "java.lang.Integer.bitCount",
-        "java.lang.System.arraycopy", "java.util.Arrays.fill",
-        "java.lang.Integer.MIN_VALUE", "java.lang.Integer.MAX_VALUE",
-        "java.lang.Byte.MIN_VALUE", "java.lang.Byte.MAX_VALUE", "java.lang.Short.MIN_VALUE");
+        "java.lang.System.arraycopy", "java.util.Arrays.fill");
     private static final Set<String> MADE = Set.of("IllegalArgumentException", "IllegalStateException");
 
     /** The tests of an index, a divisor, a length stand here alone; all else goes through them. */

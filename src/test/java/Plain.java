@@ -355,7 +355,7 @@ final class Plain {
             return false;
         }
         for (int i = 0; i < q.size(); i++) {
-            if (q.get(i)[0] > 60 || i > 0 && (q.get(i)[0] <= q.get(i - 1)[0] || q.get(i)[1] > q.get(i - 1)[1])) {
+            if (q.get(i)[0] > 60 || i > 0 && (q.get(i)[0] <= q.get(i - 1)[0] || q.get(i)[1] >= q.get(i - 1)[1])) {
                 return false;
             }
         }

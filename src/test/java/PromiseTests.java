@@ -181,7 +181,13 @@ public final class PromiseTests {
         fault("c0/9 10/1;", -2000);
         fault("c0/0 10/0;", -2000);
         due("6 POINTS, the widest", tell("c0/99 1/98 2/97 3/96 4/95 60/0;"), 1);
-        due("a flat piece", tell("c0/5 10/5 20/0;"), 1);
+        fault("c0/5 10/5 20/0;", -2000);
+        fault("c0/5 30/0 31/0;", -2000);
+        fault("c0/9 1/8 2/7 3/7 4/6 5/0;", -2000);
+        fault("c0/9 1/8 2/7 3/6 4/0 5/0;", -2000);
+        fault("c0/9 10/8;", -2000);
+        due("falling by 1", tell("c0/2 1/1 2/0;"), 1);
+        fault("c0/2 1/1 2/0;c0/8 20/8 30/0;r2;", -2013);
         fault("r2;", -2000);
         fault("r0 0;", -2000);
         fault("r[0 1] 0;", -2000);
@@ -346,13 +352,18 @@ public final class PromiseTests {
         x.dead(0, true);
         due("a DEAD one at 0", push(0, 0), 30);
         due("a DEAD one at 1", push(0, 1), -2);
-        due("a flat piece, then", tell("c0/5 10/5 20/0;"), 1);
+        due("one that LIGHT makes flat", tell("c0/6 10/5 20/1 30/0;"), 1);
         due("push(6, 5)", push(6, 5), 10);
-        due("push(6, 6)", push(6, 6), -2);
-        x.set(6, 0, 30);
-        // CURRENTS 1, 1, 0
+        due("push(6, 6)", push(6, 6), 0);
+        x.set(6, 0, 35);
+        // CURRENTS 2, 1, 0, 0
+        due("push(6, 2)", push(6, 2), 0);
         due("push(6, 1)", push(6, 1), 10);
-        due("push(6, 0)", push(6, 0), 20);
+        due("push(6, 0)", push(6, 0), 30);
+        x.set(6, 0, 30);
+        // CURRENTS 1, 1, 0, 0
+        due("push(6, 1)", push(6, 1), 10);
+        due("push(6, 2)", push(6, 2), -2);
     }
 
     private static void promise7Groups() {
@@ -389,7 +400,7 @@ public final class PromiseTests {
     }
 
     private static void promise9() {
-        begin("9", "c0/9 20/8 30/0;c0/4 20/0;f1;b2;c0/1 10/1 20/0;");
+        begin("9", "c0/9 20/8 30/0;c0/4 20/0;f1;b2;c0/2 10/1 20/0;");
         due("best(0, 0)", x.best(0, 0), 160);
         due("best(0, 1)", x.best(0, 1), 20);
         due("best(0, 2)", x.best(0, 2), 8);
@@ -408,20 +419,20 @@ public final class PromiseTests {
         due("best(0, 3)", x.best(0, 3), -1);
         due("best(0, -1)", x.best(0, -1), -1);
         // two of the same POWER: 6 at 10 and 3 at 20
-        due("a text", tell("c0/6 10/6 11/3 20/3 21/0;"), 1);
+        due("a text", tell("c0/7 10/6 11/4 20/3 21/0;"), 1);
         due("the least u", x.best(5, 1), 10);
         due("both 60", x.best(5, 0), 60);
     }
 
     private static void promise10() {
-        begin("10", "c0/1 10/1 20/0;c0/6 10/6 20/3 21/0;");
+        begin("10", "c0/2 10/1 20/0;c0/7 10/6 20/3 21/0;");
         due("hump(0, -1)", x.hump(0, -1), 1);
         due("hump(0, 0)", x.hump(0, 0), 10);
         due("hump(0, 1)", x.hump(0, 1), -4);
         due("hump(0, -2)", x.hump(0, -2), -1);
         due("hump(2, 0)", x.hump(2, 0), -1);
         due("hump(-1, -1)", x.hump(-1, -1), -1);
-        // CURRENT 6 up to 10, 5 up to 13, 4 up to 16, 3 up to 20
+        // CURRENT 6 up to 10, 5 up to 14, 4 up to 17, 3 up to 20, 2 at 21
         due("hump(1, -1)", x.hump(1, -1), 4);
         due("hump(1, 0)", x.hump(1, 0), 10);
         due("hump(1, 1)", x.hump(1, 1), 14);
@@ -432,7 +443,7 @@ public final class PromiseTests {
         due("none", x.hump(0, -1), 0);
         due("none there", x.hump(0, 0), -4);
         // POWER 2 at 1 (2 by 1), 2 at 2 (1 by 2): a flat top counts at its first u
-        due("a flat top", tell("c0/2 1/2 2/1 3/0;"), 1);
+        due("a flat top", tell("c0/3 1/2 2/1 3/0;"), 1);
         due("hump(2, -1)", x.hump(2, -1), 1);
         due("hump(2, 0)", x.hump(2, 0), 1);
     }
@@ -473,7 +484,7 @@ public final class PromiseTests {
         x.set(1, 0, 100);
         due("a BOX is no ROW", x.held(3, 5, 1), -3);
         // together -1 does not let pass: at 5, 0 gives -2 and 2 gives 1
-        due("a text", tell("c0/4 10/0;c0/5 10/5 11/0;c0/9 1/5 2/0;r[4 6];"), 4);
+        due("a text", tell("c0/4 10/0;c0/5 10/4 11/0;c0/9 1/5 2/0;r[4 6];"), 4);
         due("held(7, 5, 1)", x.held(7, 5, 1), 0);
         due("held(7, 6, 1)", x.held(7, 6, 1), 1);
     }
@@ -498,7 +509,7 @@ public final class PromiseTests {
     }
 
     private static void promise12Forgets() {
-        begin("12 forgets", "c0/9 20/9 30/0;b0;");
+        begin("12 forgets", "c0/10 20/9 30/0;b0;");
         // it goes down at once behind 20: POWER 180 at 20, 100 at 25
         due("seek(1, 5)", x.seek(1, 5), 25);
         due("seek(1, 1)", x.seek(1, 1), 20);
@@ -510,7 +521,7 @@ public final class PromiseTests {
     }
 
     private static void promise13() {
-        begin("13", "c0/9 20/9 30/0;b0;");
+        begin("13", "c0/10 20/9 30/0;b0;");
         int[] want = {5, 10, 15, 20, 25, 20, 15, 20, 25, 20};
         for (int u : want) {
             due("seek(1, 1)", x.seek(1, 1), u);
@@ -534,7 +545,7 @@ public final class PromiseTests {
     }
 
     private static void promise14() {
-        begin("14", "c0/9 20/9 30/0;b0;");
+        begin("14", "c0/10 20/9 30/0;b0;");
         due("led(1, 20, 0)", x.led(1, 20, 0), 0);
         due("led(1, 15, 0) STEP off", x.led(1, 15, 0), 0);
         due("led(1, 25, 0)", x.led(1, 25, 0), 0);
@@ -1077,11 +1088,11 @@ public final class PromiseTests {
     }
 
     private static void promise33() {
-        begin("33", "c0/5 10/5 20/0;c0/5 10/5 12/0;f0 1;b2;");
-        // each gives 5 up to 10, 4 at 11; at 12 they give 4 and 2
+        begin("33", "c0/6 10/5 20/0;c0/6 10/5 12/0;f0 1;b2;");
+        // each gives 6 at 0, 5 up to 10, 4 at 11; at 12 they give 4 and 2
         lay(0, 0);
         due("look(2, 0)", x.look(2, 0), 12);
-        lay(0, 0, 0, 5);
+        lay(0, 0, 0, 6);
         due("two that FIT", x.fits(2, 0, -1), 2);
         due("they part at 12 first", x.look(2, 0), 12);
         due("a BOX", x.look(3, 0), 12);
@@ -1111,7 +1122,7 @@ public final class PromiseTests {
 
     /** Two ROWS of three CELLS, with the third and the last CELL as told; PUSH at 4 of the others is 40. */
     private static void beginTwoRows(String name, String third, String last) {
-        String plain = "c0/5 38/5 40/4 41/0;";
+        String plain = "c0/6 38/5 40/4 41/0;";
         begin(name, plain + plain + third);
         due("the second ROW's", tell(plain + plain + last), 3);
         due("a FIELD", tell("r0 1 2;r3 4 5;f6 7;"), 3);
@@ -1121,10 +1132,10 @@ public final class PromiseTests {
 
     private static void promise33Bounds() {
         // at 4 the ROWS give 120 and 119, so that only at 120 one sees in which of them a CELL is DEAD
-        beginTwoRows("33 at 120", "c0/5 38/5 40/4 41/0;", "c0/5 38/5 39/4 41/0;");
+        beginTwoRows("33 at 120", "c0/6 38/5 40/4 41/0;", "c0/6 38/5 39/4 41/0;");
         due("look(8, 0)", x.look(8, 0), 120);
         // at 4 they give 121 and 120: 121 is not looked at; 73 parts two from four
-        beginTwoRows("33 at 121", "c0/5 38/5 41/4 42/0;", "c0/5 38/5 40/4 41/0;");
+        beginTwoRows("33 at 121", "c0/6 38/5 41/4 42/0;", "c0/6 38/5 40/4 41/0;");
         due("look(8, 0)", x.look(8, 0), 73);
     }
 

@@ -208,11 +208,13 @@ public final class RandomRuns {
     private String curve() {
         int points = in(3) ? 2 + next(5) : 2 + next(2);
         int push = 0;
-        int current = 1 + next(in(3) ? 99 : 12);
+        int current = points - 1 + next(in(3) ? 101 - points : 12);
         StringBuilder b = new StringBuilder("c0/" + current);
         for (int i = 1; i < points; i++) {
             push += 1 + next(Math.max(1, (in(20) ? 70 : 60) / points));
-            current = i == points - 1 ? 0 : current - next(current / 2 + 1);
+            // now and then it falls too late, or stays level: no CURVE
+            int fall = in(60) ? 0 : 1 + next(Math.max(1, current - (points - 1 - i)));
+            current = i == points - 1 ? 0 : Math.max(0, current - fall);
             b.append(' ').append(Math.min(push, 99)).append('/').append(current);
         }
         return b.append(';').toString();
