@@ -325,6 +325,29 @@ public final class BoundTests {
         x.due("faults 6", 6);
     }
 
+    private static void boxGives() {
+        Calls x = house("a BOX gives what that gives that it is over",
+            "c0/9 20/8 30/0;b0;c0/6 25/0;c0/8 20/0;r2 [3];b4;c0/5 10/0;c0/7 14/0;r7;f6 8;b9;");
+        x.tell("set 0 0 80", "set 2 1 20", "set 3 2 30", "set 7 3 10", "lies 0 0 101", "wall 0 0 0 1");
+        x.lay(0, 0, 90, 50);
+        x.lay(1, 0, 5, 5);
+        x.tell("sky 0");
+        int[][] pairs = {{0, 1}, {4, 5}, {9, 10}};
+        for (int[] pair : pairs) {
+            for (String call : new String[] {"about # 1", "about # 2", "push # 0", "push # 5", "push # 9", "push # 999",
+                "current # -50", "current # -1", "current # 0", "current # 7", "best # 0", "best # 1", "best # 2",
+                "hump # -1", "hump # 0", "hump # 9", "hour # 0 0", "hour # 0 1", "hour # 9 11", "day # 0", "without # 0",
+                "without # 5", "without # 15", "loss # 1 false", "loss # 0 true", "faults #", "fits # 1 -1", "fits # 1 0",
+                "look # 1"}) {
+                x.dueAlike(call, pair[0], pair[1]);
+            }
+            x.due("about " + pair[1] + " 0", 3);
+            x.due("about " + pair[1] + " 3", 1);
+            x.due("about " + pair[0] + " 4", pair[1]);
+        }
+        x.dueEach(-3, "point 1 0 0", "set 1 0 5", "dead 1 true", "lies 1 0 0", "lit 1 0", "held 5 0 0");
+    }
+
     private static void inOneOther() {
         Calls x = house("each PART is in one other at most", times(6, "c0/1 1/0;") + "r0;f1;b2;r3;b9;f4;b11;");
         for (String other : new String[] {"0", "1", "2", "3", "4"}) {
@@ -1389,6 +1412,7 @@ public final class BoundTests {
         membersOfField();
         greatField();
         diodesInField();
+        boxGives();
         inOneOther();
     }
 

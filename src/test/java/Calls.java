@@ -103,6 +103,11 @@ final class Calls {
         }
     }
 
+    /** What the call answers of one PART in place of # is due of another. */
+    void dueAlike(String call, int part, int other) {
+        due(call.replace("#", String.valueOf(other)), answer(call.replace("#", String.valueOf(part))));
+    }
+
     void tell(String... told) {
         for (String call : told) {
             answer(call);
