@@ -1228,6 +1228,32 @@ public final class BoundTests {
         }
     }
 
+    private static void shelvesFull() {
+        Calls x = house("8 SHELVES each hold their own", times(8, "c0/9 9/0;"));
+        for (int d = 0; d < 8; d++) {
+            x.lay(d, d % 3, d, 10 * d, 100 + d);
+        }
+        for (int d = 0; d < 8; d++) {
+            x.dueRow("element " + d + " #", -1, STATE, d, 10 * d, 100 + d, STATE);
+        }
+        for (int d = 0; d < 8; d++) {
+            x.due("keep " + d + " 1 " + (7 - d), 0);
+        }
+        for (int d = 0; d < 8; d++) {
+            x.due("weight " + d, 10 + 7 - d + 9);
+            x.due("toss " + d, 9);
+            x.due("element " + d + " 0", STATE);
+        }
+        x.due("row 3 0 1", 0);
+        for (int d = 0; d < 8; d++) {
+            x.due("weight " + d, d == 3 ? -12 : 10 + 7 - d + 9);
+        }
+        for (int d = 0; d < 8; d++) {
+            x.due("keep " + d + " 0 0", 0);
+            x.due("weight " + d, -11);
+        }
+    }
+
     private static void rowsOfElements() {
         Calls x = house("a ROW has 0 .. 120 elements, 0 at first", "");
         for (int sort = 0; sort < 3; sort++) {
@@ -1483,6 +1509,7 @@ public final class BoundTests {
 
     private static void shelves() {
         shelvesAtFirst();
+        shelvesFull();
         rowsOfElements();
         lowestBits();
         copies();
