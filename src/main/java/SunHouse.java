@@ -1396,7 +1396,8 @@ public final class SunHouse {
                 addLine(inner);
                 return;
             }
-            for (int i = 0; i < at(parts.members, inner); i++) {
+            int members = at(parts.members, inner);
+            for (int i = 0; i < members; i++) {
                 addLine(at(parts.member, inner * MOST_IN_ROW + i));
             }
         }
@@ -1422,7 +1423,8 @@ public final class SunHouse {
                 addCell(line, groups);
                 groups++;
             } else {
-                for (int i = 0; i < at(parts.members, line); i++) {
+                int members = at(parts.members, line);
+                for (int i = 0; i < members; i++) {
                     int slot = line * MOST_IN_ROW + i;
                     int inGroup = groups + at(parts.group, slot);
                     lay(diode, inGroup, at(parts.diode, slot));

@@ -50,6 +50,15 @@ final class Calls {
         return answer == ARGUMENT ? "IllegalArgumentException" : answer == STATE ? "IllegalStateException" : "" + answer;
     }
 
+    SunHouse house() {
+        return house;
+    }
+
+    /** How many calls it was told. */
+    int calls() {
+        return calls;
+    }
+
     long answer(String call) {
         if (++calls > MOST_CALLS) {
             throw new IllegalStateException("more calls than the document tells of: " + name);

@@ -170,6 +170,7 @@ public final class LanguageRules {
         @Override
         public Void visitMethodInvocation(MethodInvocationTree t, Void v) {
             uses(t, element(t.getMethodSelect()));
+            keepsConstants(t);
             return super.visitMethodInvocation(t, v);
         }
 
@@ -188,6 +189,81 @@ public final class LanguageRules {
                 tell(t, "an object is made outside a constructor: " + made);
             }
             return super.visitNewClass(t, v);
+        }
+
+        /** What a call makes stays in the room for all calls to come. */
+        @Override
+        public Void visitNewArray(NewArrayTree t, Void v) {
+            if (inside != null && !inside.getName().contentEquals("<init>")) {
+                tell(t, "an array is made outside a constructor: " + t);
+            }
+            for (ExpressionTree length : t.getDimensions()) {
+                if (!constant(length) && !allConstant(length)) {
+                    tell(t, "a length that is no constant: " + t);
+                }
+            }
+            return super.visitNewArray(t, v);
+        }
+
+        private boolean allConstant(ExpressionTree t) {
+            if (t instanceof ParenthesizedTree) {
+                return allConstant(((ParenthesizedTree) t).getExpression());
+            }
+            if (t instanceof BinaryTree) {
+                return allConstant(((BinaryTree) t).getLeftOperand()) && allConstant(((BinaryTree) t).getRightOperand());
+            }
+            return constant(t);
+        }
+
+        // ---- rule 9: every loop has an end
+
+        @Override
+        public Void visitForLoop(ForLoopTree t, Void v) {
+            if (t.getUpdate().isEmpty() || !beginsWithBound(t.getCondition())) {
+                tell(t, "a loop without a step, or that begins with no bound: " + t.getCondition());
+            }
+            return super.visitForLoop(t, v);
+        }
+
+        @Override
+        public Void visitWhileLoop(WhileLoopTree t, Void v) {
+            if (!beginsWithBound(t.getCondition())) {
+                tell(t, "a loop that begins with no bound: " + t.getCondition());
+            }
+            return super.visitWhileLoop(t, v);
+        }
+
+        @Override
+        public Void visitDoWhileLoop(DoWhileLoopTree t, Void v) {
+            tell(t, "do .. while is not used in this file");
+            return super.visitDoWhileLoop(t, v);
+        }
+
+        /** A counter against a bound, neither of them asked of a method, ahead of all else. */
+        private static boolean beginsWithBound(ExpressionTree t) {
+            if (t instanceof ParenthesizedTree) {
+                return beginsWithBound(((ParenthesizedTree) t).getExpression());
+            }
+            if (t != null && t.getKind() == Tree.Kind.CONDITIONAL_AND) {
+                return beginsWithBound(((BinaryTree) t).getLeftOperand());
+            }
+            return t != null && t.toString().indexOf('(') < 0 && Set.of(Tree.Kind.LESS_THAN, Tree.Kind.LESS_THAN_EQUAL,
+                Tree.Kind.GREATER_THAN, Tree.Kind.GREATER_THAN_EQUAL).contains(t.getKind());
+        }
+
+        // ---- rule 5: what is static stays as it is
+
+        private void keepsConstants(MethodInvocationTree t) {
+            String name = element(t.getMethodSelect()).getSimpleName().toString();
+            int goal = name.equals("lay") || name.equals("fill") ? 0 : name.equals("copyOver") ? 1
+                : name.equals("arraycopy") ? 2 : -1;
+            if (goal < 0 || goal >= t.getArguments().size()) {
+                return;
+            }
+            Element e = element(t.getArguments().get(goal));
+            if (e != null && e.getModifiers().contains(Modifier.STATIC)) {
+                tell(t, "changes a constant: " + t);
+            }
         }
 
         private void uses(Tree t, Element e) {
