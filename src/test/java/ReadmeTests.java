@@ -100,7 +100,7 @@ public final class ReadmeTests {
         boolean told = codeOf(readme, "## Tests").contains(WAY);
         Calls.check("README.md", "tells " + WAY, told ? 1 : 0, 1);
         Path way = root.resolve(WAY);
-        Calls.check("README.md", WAY + " is there to be run", Files.isExecutable(way) ? 1 : 0, 1);
+        Calls.check("README.md", WAY + " is there", Files.isRegularFile(way) ? 1 : 0, 1);
         String script = Files.readString(way);
         String all = String.join("\n", readme);
         Calls.check(WAY, "runs ../shared/tests", script.contains("\"$shared\"/tests/*.java") ? 1 : 0, 1);
